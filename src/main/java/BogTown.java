@@ -796,7 +796,8 @@ public final class BogTown {
             int before = night * MOST_HOUSES;
             int behind = before + MOST_HOUSES;
             for (int h = 0; h < town.count; h++) {
-                depths[behind + h] = Math.max(0, depths[before + h] + change[h]);
+                int deep = depths[before + h] + change[h];
+                depths[behind + h] = deep > 0 ? deep : 0;
             }
         }
 
@@ -836,7 +837,9 @@ public final class BogTown {
         /** Between a HOUSE and the next one, which there must be. */
         private boolean canStep(int h, int dawn) {
             int at = dawn * MOST_HOUSES + h;
-            return Math.abs(depths[at] - depths[at + 1]) <= 10 * town.step;
+            int deeper = depths[at] - depths[at + 1];
+            int most = 10 * town.step;
+            return deeper <= most && deeper >= -most;
         }
 
         private int planksAt(int dawn) {
@@ -991,10 +994,11 @@ public final class BogTown {
 
         /** How deep a GUEST would sleep as the row is, summed up over his nights. */
         private int howDeep(int g) {
-            nights.pass(row, guests.last[g] + 1);
+            nights.begin(row);
             int sum = 0;
-            for (int night = guests.first[g]; night <= guests.last[g]; night++) {
-                sum += nights.depthAt(row[g], night + 1);
+            for (int night = 0; night <= guests.last[g]; night++) {
+                nights.passNight(row, night, 0);
+                sum += night >= guests.first[g] ? nights.depthAt(row[g], night + 1) : 0;
             }
             return sum;
         }
