@@ -110,6 +110,13 @@ public final class GuestsTest {
         c.due("two in one", x.lodge(1, 1), 0);
         c.due("weights are summed up", x.depth(1, 1), 60);
         c.due("a fourth of the sum", x.depth(2, 1), 15);
+        x.lodge(0, BogTown.NONE);
+        x.lodge(1, BogTown.NONE);
+        c.due("nobody is there any more", x.depth(1, 50), 0);
+        x.guest(8, 5, 5);
+        x.lodge(2, 1);
+        c.due("ahead of his first night", x.depth(1, 5), 0);
+        c.due("behind it", x.depth(1, 6), 8);
         c.due("no such house", x.depth(5, 51), BogTown.UNKNOWN);
         c.due("no such house", x.depth(-1, 0), BogTown.UNKNOWN);
         c.due("beyond dawn 50", x.depth(0, 51), BogTown.OUTSIDE);
