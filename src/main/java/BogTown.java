@@ -265,11 +265,11 @@ public final class BogTown {
         Nights now = asItIs();
         int at = 1 << from;
         for (int d = dawn; d <= NIGHTS; d++) {
+            // One STEP a dawn, and one is there at that dawn; only waiting goes on to the next one.
+            at = now.stepped(at, d);
             if ((at >> to & 1) == 1) {
                 return d;
             }
-            // A STEP takes the dawn, as waiting does: one is there at the next one.
-            at = now.stepped(at, d);
         }
         return NONE;
     }

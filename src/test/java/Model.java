@@ -1,4 +1,3 @@
-import java.util.ArrayDeque;
 import java.util.ArrayList;
 import java.util.Arrays;
 import java.util.List;
@@ -345,18 +344,18 @@ final class Model {
         if (noHouse(from) || noHouse(to)) return UNKNOWN;
         if (out(dawn, 0, 50)) return OUTSIDE;
         int[][] d = now();
-        boolean[][] seen = new boolean[52][houses.size()];
-        ArrayDeque<int[]> open = new ArrayDeque<>();
-        open.add(new int[] {from, dawn});
-        while (!open.isEmpty()) {
-            int[] at = open.remove();
-            int h = at[0];
-            if (at[1] > 50 || seen[at[1]][h]) continue;
-            seen[at[1]][h] = true;
-            if (h == to) return at[1];
-            open.add(new int[] {h, at[1] + 1});
-            if (h > 0 && !apart(d[at[1]], h, h - 1)) open.add(new int[] {h - 1, at[1] + 1});
-            if (h + 1 < houses.size() && !apart(d[at[1]], h, h + 1)) open.add(new int[] {h + 1, at[1] + 1});
+        // In each HOUSE: whether one can be there ahead of the dawn, and behind what is done at it.
+        boolean[] ahead = new boolean[houses.size()];
+        ahead[from] = true;
+        for (int at = dawn; at <= 50; at++) {
+            boolean[] behind = ahead.clone();
+            for (int h = 0; h + 1 < houses.size(); h++) {
+                if (apart(d[at], h, h + 1)) continue;
+                if (ahead[h]) behind[h + 1] = true;
+                if (ahead[h + 1]) behind[h] = true;
+            }
+            if (behind[to]) return at;
+            ahead = behind;
         }
         return NONE;
     }

@@ -83,26 +83,30 @@ public final class PlansTest {
         c.due("no such night", x.feast(0, 1, -1), BogTown.OUTSIDE);
     }
 
-    /** A STEP is read as taking the dawn: one is there at the next one, as if one had waited. */
+    /** One STEP a dawn, made at that dawn; waiting goes on to the next one. */
     private static void way() {
         c.promise(14);
         BogTown x = Check.town("t1;h1409;h1449;h1409");
         c.due("there already", x.way(1, 1, 7), 7);
         c.due("there already", x.way(2, 2, 50), 50);
-        c.due("one STEP", x.way(0, 1, 0), 1);
-        c.due("one STEP a dawn", x.way(0, 2, 0), 2);
-        c.due("and back", x.way(2, 0, 48), 50);
-        c.due("no dawn more", x.way(2, 0, 49), BogTown.NONE);
+        c.due("there already", x.way(0, 0, 0), 0);
+        c.due("one STEP", x.way(0, 1, 0), 0);
+        c.due("one STEP", x.way(2, 1, 7), 7);
+        c.due("one STEP at the last dawn", x.way(1, 0, 50), 50);
+        c.due("one STEP a dawn", x.way(0, 2, 0), 1);
+        c.due("and back", x.way(2, 0, 49), 50);
+        c.due("no dawn more", x.way(2, 0, 50), BogTown.NONE);
         // House 1 is at 120 at dawn 1, 80 at 2, 40 at 3, 0 at 4; its sides at 30.
         x.guest(30, 0, 0);
         x.lodge(0, 1);
         c.due("dawn 1", x.depth(1, 1), 120);
         c.due("its sides", x.depth(2, 50), 30);
-        c.due("out at dawn 0", x.way(1, 2, 0), 1);
-        c.due("waiting till 40 and 30 at dawn 3", x.way(1, 2, 1), 4);
-        c.due("in at dawn 0, out at dawn 3", x.way(0, 2, 0), 4);
+        c.due("out at dawn 0", x.way(1, 2, 0), 0);
+        c.due("waiting till 40 and 30 at dawn 3", x.way(1, 2, 1), 3);
+        c.due("in at dawn 0, out at dawn 3", x.way(0, 2, 0), 3);
         c.due("in at dawn 3, and no more out", x.way(0, 2, 1), BogTown.NONE);
-        c.due("in at dawn 3", x.way(0, 1, 1), 4);
+        c.due("in at dawn 3", x.way(0, 1, 1), 3);
+        c.due("in at its own dawn", x.way(0, 1, 3), 3);
         c.due("never behind that", x.way(0, 1, 4), BogTown.NONE);
         c.due("no such house", x.way(0, 3, 51), BogTown.UNKNOWN);
         c.due("no such house", x.way(-1, 0, 0), BogTown.UNKNOWN);
@@ -112,10 +116,28 @@ public final class PlansTest {
         c.due("no such dawn", x.way(0, 0, -1), BogTown.OUTSIDE);
     }
 
+    /** Nobody sleeps there: as many dawns as there are STEPS, and the first is made at once. */
+    private static void wayThroughSeven() {
+        c.promise(14);
+        BogTown x = Check.town("t0;h1111;h1111;h1111;h1111;h1111;h1111;h1111");
+        for (int from = 0; from < 7; from++) {
+            for (int to = 0; to < 7; to++) {
+                int steps = Math.abs(from - to);
+                int later = Math.max(steps - 1, 0);
+                c.due("way " + from + " " + to, x.way(from, to, 3), 3 + later);
+                c.due("just in time " + from + " " + to, x.way(from, to, 50 - later), 50);
+                if (steps > 1) {
+                    c.due("too late " + from + " " + to, x.way(from, to, 51 - later), BogTown.NONE);
+                }
+            }
+        }
+    }
+
     public static void main(String[] args) {
         lodgings();
         feast();
         way();
+        wayThroughSeven();
         c.end();
     }
 }
