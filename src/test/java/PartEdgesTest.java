@@ -98,6 +98,19 @@ public final class PartEdgesTest {
         c.due("behind 300 more", x.trace(), t);
     }
 
+    /** "at most 512 calls": the last of them is answered as the first ones are. */
+    private static void theLastCall() {
+        c.promise(30);
+        BogTown x = Check.town(SEVEN);
+        int calls = 1 + 44 + 1;
+        int t = 0;
+        for (; calls < 511; calls++) {
+            c.due("call " + (calls + 1), x.knock(calls % 7), LETTERS.charAt(calls % 7) == 'p' ? 40 : calls % 7);
+            t = left(t, LETTERS.charAt(calls % 7) == 'p' ? 5 : 4);
+        }
+        c.due("the 512th", x.trace(), t);
+    }
+
     /** Makes fault() one of 1 .. 4. */
     private static void come(BogTown x, int fault) {
         x.lose(3);
@@ -241,6 +254,7 @@ public final class PartEdgesTest {
         knock();
         as();
         trace();
+        theLastCall();
         fault();
         faultsThatStay();
         many();

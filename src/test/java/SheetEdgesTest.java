@@ -45,7 +45,7 @@ public final class SheetEdgesTest {
     }
 
     /** "(0 at first)": whatever was there, a shorter row and nothing between them even. */
-    private static void anewRow() {
+    private static void aNewRow() {
         c.promise(22);
         BogTown x = new BogTown();
         x.sheet(0, 2, 60);
@@ -225,7 +225,7 @@ public final class SheetEdgesTest {
     public static void main(String[] args) {
         rows();
         lengths();
-        anewRow();
+        aNewRow();
         lose();
         cuts();
         cells();
