@@ -243,6 +243,11 @@ public final class PlanEdgesTest {
         z.lodge(0, 0);
         z.lodge(1, 1);
         c.due("at dawn 3 they are even again", z.way(0, 1, 2), 3);
+        BogTown seven = Check.town(EVEN);
+        c.due("the last HOUSE at the last dawn", seven.way(5, 6, 50), 50);
+        c.due("from it", seven.way(6, 5, 50), 50);
+        c.due("no further", seven.way(6, 4, 50), NONE);
+        c.due("the first HOUSE at the last dawn", seven.way(1, 0, 50), 50);
     }
 
     public static void main(String[] args) {
